@@ -270,7 +270,8 @@ public final class HewnSolids {
         return edgesBetween(column, next) != 0 ? HIDDEN : NONE;
     }
 
-    // Bit c tells of the line across the columns at coordinate c, which has cells c - 1 and c of both around it.
+    // Bit c tells of the line across the columns at coordinate c: cells c - 1 and c of both columns
+    // are around it.
     private static int edgesBetween(int column, int next) {
         return edgesAmong(column, column << 1, next, next << 1);
     }
@@ -458,7 +459,7 @@ public final class HewnSolids {
             return true;
         }
 
-        // Cells z - 1 and z of a column; moved up by one, the column has an empty bit for z - 1 = -1.
+        // Cells z - 1 and z of a column. It is moved up by one to have an empty bit for z - 1 = -1.
         private int countPair(int x, int y, int z) {
             return Integer.bitCount((column(x, y) << 1) >> z & 3);
         }
@@ -480,7 +481,8 @@ public final class HewnSolids {
             }
         }
 
-        // Cells that come to column (x, y) by a turn stood in one line, along the axis that is turned into z.
+        // Cells that a turn brings to column (x, y) stood in one column before it, along the axis
+        // that is turned into z.
         private static int turnedColumn(Cells solid, int axis, int x, int y) {
             if (axis == 0) {
                 return solid.columnAlong(1, x, SIZE - 1 - y);
@@ -556,7 +558,8 @@ public final class HewnSolids {
             return exchange(solids, place);
         }
 
-        // A step keeps the one of its two states that its solid is not in, so both ways are one exchange.
+        // A step keeps the one of its two states that its solid is not in, so that both ways are
+        // one exchange.
         private int exchange(Cells[] solids, int place) {
             int number = numbers[place];
             Cells other = others[place];
@@ -569,7 +572,7 @@ public final class HewnSolids {
     /** Takes sets of cells that hang together out of a set, and counts them. */
     private static final class Flood {
         private final int[] left;
-        // Each entry is the place of a column, above the bits of cells that were just taken out of it.
+        // Each entry is the place of a column, above the bits of cells that were taken out of it.
         private final int[] taken;
         private int end;
 

@@ -220,6 +220,13 @@ public final class HewnSolidsPromisesTest {
             CHECK.due("5: twice is the same", true, x.same(0, 1));
         }
         HewnSolids x = new HewnSolids();
+        x.box(0, 0, 0, 0, 1, 1, 1);
+        for (int axis = 0; axis < 3; axis++) {
+            due("5: a corner cell", 1, x.mirror(0, axis));
+            for (int other = 0; other < 3; other++) {
+                due("5: to the next corner", other <= axis ? 11 : 0, x.extent(0, other, 0));
+            }
+        }
         due("5: an empty one", 0, x.mirror(2, 0));
         due("5: it was a step", 2, x.undo());
         for (int s : NO_SOLIDS) {
@@ -520,12 +527,26 @@ public final class HewnSolidsPromisesTest {
         due("13: empty", 0, x.pieces(5));
         x.box(3, 0, 0, 0, 12, 12, 12);
         due("13: the whole cube", 1, x.pieces(3));
+        ringWithStem(x, 0);
+        for (int axis = 0; axis < 12; axis++) {
+            due("13: a ring with a stem", 1, x.pieces(0));
+            x.turn(0, axis % 3);
+        }
         checkered(x);
         due("13: every second cell", 864, x.pieces(0));
         due("13: asked again", 864, x.pieces(0));
         for (int s : NO_SOLIDS) {
             due("13: no solid", BAD, x.pieces(s));
         }
+    }
+
+    /** Solid 0 becomes a ring with a stem, from x = from on; its far side is reached from both ends at once. */
+    private static void ringWithStem(HewnSolids x, int from) {
+        x.box(0, from + 1, 1, 1, 3, 1, 3);
+        x.box(1, from + 2, 1, 2, 1, 1, 1);
+        x.join(0, 0, 1, 2);
+        x.box(1, from, 1, 2, 1, 1, 1);
+        x.join(0, 0, 1, 0);
     }
 
     /** Solid 0 becomes every second cell: the stripes along each axis, cells in an odd number of them. */
@@ -567,6 +588,13 @@ public final class HewnSolidsPromisesTest {
             due("14: a hole in the shell", 0, x.hollows(5));
             due("14: and one piece", 1, x.pieces(5));
         }
+        ringWithStem(x, 1);
+        x.box(1, 0, 0, 0, 12, 12, 12);
+        x.join(0, 1, 0, 2);
+        for (int axis = 0; axis < 12; axis++) {
+            due("14: a hollow like a ring with a stem", 1, x.hollows(0));
+            x.turn(0, axis % 3);
+        }
         checkered(x);
         due("14: every second cell, off the border", 500, x.hollows(0));
         for (int s : NO_SOLIDS) {
@@ -605,6 +633,14 @@ public final class HewnSolidsPromisesTest {
                 due("16: no end, empty", BAD, x.extent(5, axis, end));
             }
         }
+        x.box(1, 0, 0, 0, 1, 1, 1);
+        x.box(2, 11, 11, 11, 1, 1, 1);
+        for (int axis = 0; axis < 3; axis++) {
+            for (int end = 0; end < 2; end++) {
+                due("16: the first cell", 0, x.extent(1, axis, end));
+                due("16: the last cell", 11, x.extent(2, axis, end));
+            }
+        }
         for (int s : NO_SOLIDS) {
             due("16: no solid", BAD, x.extent(s, 0, 0));
         }
@@ -630,9 +666,12 @@ public final class HewnSolidsPromisesTest {
         due("17: its other side", 0, x.inside(1, 6, 0, 6));
         due("17: near its corner", 1, x.inside(1, 1, 1, 1));
         due("17: near the other corner", 1, x.inside(1, 11, 11, 11));
-        x.box(2, 6, 6, 6, 1, 1, 1);
-        x.join(2, 1, 2, 2);
-        due("17: seven of eight", 0, x.inside(2, 6, 6, 6));
+        for (int i = 0; i < 8; i++) {
+            x.box(2, 5 + (i & 1), 5 + (i >> 1 & 1), 5 + (i >> 2), 1, 1, 1);
+            x.join(3, 1, 2, 2);
+            due("17: one of eight", 0, x.inside(2, 6, 6, 6));
+            due("17: seven of eight", 0, x.inside(3, 6, 6, 6));
+        }
         due("17: empty", -1, x.inside(5, 0, 0, 0));
         due("17: empty at the end", -1, x.inside(5, 12, 12, 12));
         for (int s : NO_SOLIDS) {
@@ -682,6 +721,9 @@ public final class HewnSolidsPromisesTest {
         x.box(3, 11, 11, 11, 1, 1, 1);
         x.join(3, 2, 3, 2);
         CHECK.due("19: all but the last cell", false, x.same(2, 3));
+        x.box(3, 0, 0, 0, 1, 1, 1);
+        x.join(3, 2, 3, 2);
+        CHECK.due("19: all but the first cell", false, x.same(2, 3));
         for (int s : NO_SOLIDS) {
             CHECK.due("19: no a", false, x.same(s, 0));
             CHECK.due("19: no b", false, x.same(0, s));
