@@ -1,13 +1,21 @@
 /** Compares answers with those that are due, and ends a test with exit code 1 if one was wrong. */
 final class Check {
+    private String sentence = "";
+    private int sentences;
     private int wrong;
     private int seen;
+
+    /** Names the sentence of the document that the next answers are held against. */
+    void sentence(String words) {
+        sentence = words + " | ";
+        sentences++;
+    }
 
     void due(String call, long want, long got) {
         seen++;
         if (got != want) {
             wrong++;
-            System.out.println(call + " answered " + got + ", due is " + want);
+            System.out.println(sentence + call + " answered " + got + ", due is " + want);
         }
     }
 
@@ -20,7 +28,8 @@ final class Check {
     }
 
     void finish() {
-        System.out.println(seen + " answers, " + wrong + " not as due");
+        String about = sentences == 0 ? "" : sentences + " sentences, ";
+        System.out.println(about + seen + " answers, " + wrong + " not as due");
         if (wrong != 0) {
             System.exit(1);
         }
