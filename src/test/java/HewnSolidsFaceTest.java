@@ -50,6 +50,7 @@ public final class HewnSolidsFaceTest {
         check.due("the class is public and final", Modifier.PUBLIC | Modifier.FINAL,
                 HewnSolids.class.getModifiers());
         noHiddenMethodHasAPublicName(check);
+        classesInsideAreStaticAndNotShown(check);
         check.finish();
     }
 
@@ -86,6 +87,14 @@ public final class HewnSolidsFaceTest {
                     check.due(method + " bears a public name", false, names.contains(method.getName()));
                 }
             }
+        }
+    }
+
+    private static void classesInsideAreStaticAndNotShown(Check check) {
+        for (Class<?> one : HewnSolids.class.getDeclaredClasses()) {
+            int modifiers = one.getModifiers();
+            check.due(one + " is static", true, Modifier.isStatic(modifiers));
+            check.due(one + " is shown", false, Modifier.isPublic(modifiers) || Modifier.isProtected(modifiers));
         }
     }
 }
